@@ -4,6 +4,7 @@ public final class CommandsTest {
         promise22();
         promise23();
         promise24Faults();
+        promise24Mended();
         promise24Sound();
         promise24Words();
         promise24OutOfRange();
@@ -54,7 +55,7 @@ public final class CommandsTest {
 
     private static void promise24Faults() {
         String[] first = {"riz", "ris", "rises 0 1 2;", "r", "runn 1;", "ru n 1;", "Run 1;", "1;", ";", "rise!", "x!",
-            "zzzzzzzzzzzzzzzzzzzz", "rUn 1;", "\0", "\t", "runfree;", "fre e;"};
+            "zzzzzzzzzzzzzzzzzzzz", "rUn 1;", "xise 0 0 1;", "\0", "\t", "runfree;", "fre e;"};
         for (String text : first) {
             // Of "rise!" the word is one of these: the byte behind it is at fault.
             fault(text, text.equals("rise!") ? 4 : 0);
@@ -98,6 +99,18 @@ public final class CommandsTest {
         fault("free{;", 4);
         fault("signal 5 ; service ", 19);
         fault("run 1;run 1;run 1;!", 18);
+    }
+
+    private static void promise24Mended() {
+        ValveTwins x = new ValveTwins();
+        Check.due("too short", Check.runText(x, "signal 7"), -18);
+        x.type(';');
+        Check.due("its end typed", x.runCommands(), 1);
+        Check.due("signal", x.pair(0), 7);
+        Check.due("the first without a fault, the second with one", Check.runText(x, "signal 8;signal 9"), -27);
+        Check.due("nothing is done", x.pair(0), 7);
+        Check.due("sound again", Check.runText(x, " "), 0);
+        Check.undoLeaves("the sound texts save", x, 1);
     }
 
     private static void sound(String text, int commands) {

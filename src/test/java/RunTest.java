@@ -7,6 +7,7 @@ public final class RunTest {
         speed();
         bothStems();
         wornSticking();
+        wearByTravel();
         leaking();
         characteristics();
         controllerRaises();
@@ -16,6 +17,7 @@ public final class RunTest {
         volumes();
         ledgerDays();
         ledgerAmounts();
+        ledgerFullAndBusy();
         refusals();
         lastTick();
         Check.finish();
@@ -141,6 +143,30 @@ public final class RunTest {
         Check.due("serviced", five.valve(0, 18), 30);
     }
 
+    /** Ways up alone, each from 0 again by hand: there is no reversal then. */
+    private static void wearByTravel() {
+        ValveTwins x = new ValveTwins();
+        x.setSignal(500);
+        x.setValve(0, 0, 99);
+        x.run(1);
+        Check.due("wear of 99", x.valve(0, 16), 0);
+        x.setValve(0, 0, 1);
+        x.run(1);
+        Check.due("wear of 100", x.valve(0, 16), 1);
+        x.setValve(0, 0, 1000);
+        x.run(1);
+        for (int way = 2; way <= 5; way++) {
+            x.putStem(0, 0);
+            Check.due("leak of " + (way - 1), x.valve(0, 19), (way - 1) / 2);
+            Check.due("threshold of " + (way - 1), x.valve(0, 17), 10);
+            x.run(1);
+        }
+        x.putStem(0, 0);
+        Check.due("wear of 5000", x.valve(0, 16), 50);
+        Check.due("threshold at the wear 50", x.valve(0, 18), 11);
+        Check.due("leak at the wear 50", x.valve(0, 19), 2);
+    }
+
     private static void leaking() {
         ValveTwins x = swung(4);
         Check.due("49 / 20", x.valve(0, 19), 2);
@@ -149,6 +175,10 @@ public final class RunTest {
         int before = x.pair(10);
         x.run(3);
         Check.due("leaked", x.pair(10) - before, 6);
+        x.run(2);
+        Check.due("leaked more", x.pair(10) - before, 10);
+        x.undo();
+        Check.due("leaked after undo", x.pair(10) - before, 6);
         x.setValve(0, 3, 1);
         Check.due("no more than its size", x.valve(0, 19), 1);
         x.setValve(0, 3, 0);
@@ -195,6 +225,12 @@ public final class RunTest {
         x.tune(0, 0);
         x.run(1);
         Check.due("off again", x.pair(0), 90);
+        ValveTwins y = new ValveTwins();
+        y.tune(1, 1000);
+        y.tune(2, 999);
+        y.tune(0, 1);
+        y.run(1);
+        Check.due("999 more", y.pair(0), 999);
     }
 
     private static void controllerFloors() {
@@ -273,9 +309,9 @@ public final class RunTest {
         Check.entryIs("600 ticks", x, 0, 0, 0, 0, 0, 0);
         x.run(1);
         Check.due("601 ticks", x.pair(11), 12);
-        Check.entryIs("601 ticks", x, 0, 0, 1, 0, 0, 0);
-        Check.entryIs("601 ticks", x, 1, 1, 1, 0, 0, 0);
-        Check.entryIs("601 ticks", x, 11, 1, 6, 0, 0, 0);
+        for (int entry = 0; entry < 12; entry++) {
+            Check.entryIs("601 ticks", x, entry, entry % 2, 1 + entry / 2, 0, 0, 0);
+        }
         Check.undoLeaves("601 ticks", x, 3);
         Check.entryIs("undone", x, 0, 0, 0, 0, 0, 0);
         Check.entryIs("undone", x, 11, 1, 5, 0, 0, 0);
@@ -293,6 +329,25 @@ public final class RunTest {
         Check.entryIs("day 1", x, 2, 0, 1, 1000, 1, 0);
         Check.entryIs("day 1", x, 3, 1, 1, 1000, 0, 0);
         Check.due("leaked in all", x.pair(10), 195);
+    }
+
+    private static void ledgerFullAndBusy() {
+        ValveTwins x = swung(4);
+        x.setRange(1, 0, 600, false);
+        x.run(500);
+        x.run(94);
+        x.setSignal(600);
+        x.run(1);
+        x.setSignal(0);
+        x.run(1);
+        // The wear of the valve 0 is 49 in the 98 ticks before, and 75 in the last one: leaks of 2 and of 3.
+        Check.entryIs("day 5", x, 10, 0, 5, 2000, 2, 2 * 98 + 3);
+        Check.entryIs("day 5", x, 11, 1, 5, 2000, 1, 1);
+        x.run(1);
+        Check.entryIs("day 5 moves on", x, 8, 0, 5, 2000, 2, 2 * 98 + 3);
+        Check.entryIs("day 5 moves on", x, 9, 1, 5, 2000, 1, 1);
+        Check.entryIs("day 6", x, 10, 0, 6, 0, 0, 3);
+        Check.entryIs("day 6", x, 11, 1, 6, 0, 0, 1);
     }
 
     private static void refusals() {

@@ -75,6 +75,9 @@ public final class WhatIfTest {
         Check.due("flatSignals() at both ends", x.flatSignals(), 998);
         x.setRange(0, 0, 1000, true);
         Check.due("flatSignals() with all", x.flatSignals(), 0);
+        x.setRange(0, 1, 2, true);
+        x.setRange(1, 1, 2, false);
+        Check.due("flatSignals() but for 2", x.flatSignals(), 999);
     }
 
     private static void promise17() {
