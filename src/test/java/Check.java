@@ -1,13 +1,26 @@
-/** What the tests share: counting right and wrong answers, and ways to reach a state. */
+import java.util.ArrayList;
+import java.util.List;
+import java.util.function.Consumer;
+import java.util.function.Supplier;
+
+/** What the tests share: the sentence that is tested, right and wrong answers, refused calls. */
 final class Check {
     static final Class<IndexOutOfBoundsException> NO_VALVE = IndexOutOfBoundsException.class;
     static final Class<IllegalArgumentException> BAD_VALUE = IllegalArgumentException.class;
     static final Class<IllegalStateException> BAD_STATE = IllegalStateException.class;
+    static final int[] WRONG_VALVES = {-1, 2, Integer.MIN_VALUE, Integer.MAX_VALUE};
 
+    private static String sentence = "";
     private static int passed;
     private static int failed;
 
     private Check() {
+    }
+
+    /** Names the promise, or another section of the document, and the sentence that the next checks are about. */
+    static void sentence(String section, String words) {
+        sentence = section + ", \"" + words + "\": ";
+        count(Document.says(section, words), "this is not in the document");
     }
 
     static void due(String call, long got, long want) {
@@ -23,77 +36,87 @@ final class Check {
             passed++;
         } else {
             failed++;
-            System.out.println(complaint);
+            System.out.println(sentence + complaint);
         }
     }
 
-    /** The call must throw exactly this kind, and leave everything that can be seen as it was. */
-    static void refused(String call, ValveTwins x, Class<? extends RuntimeException> kind, Runnable body) {
-        String before = snapshot(x);
+    /** The call must throw exactly this kind, and leave all as it is in an object that never made it. */
+    static void refused(String call, Class<? extends RuntimeException> kind, Supplier<ValveTwins> start,
+            Consumer<ValveTwins> body) {
+        ValveTwins x = start.get();
         Class<?> thrown = null;
         try {
-            body.run();
+            body.accept(x);
         } catch (RuntimeException e) {
             thrown = e.getClass();
         }
         count(thrown == kind, call + " threw " + thrown + ", due is " + kind);
-        String after = snapshot(x);
-        count(after.equals(before), call + " changed the state from " + before + " to " + after);
+        count(traces(x).equals(traces(start.get())), call + " was refused, but changed something");
     }
 
-    static String snapshot(ValveTwins x) {
-        StringBuilder all = new StringBuilder();
-        for (int what = 0; what <= 11; what++) {
-            all.append(x.pair(what)).append(' ');
-        }
-        for (int valve = 0; valve <= 1; valve++) {
-            for (int what = 0; what <= 20; what++) {
-                all.append(x.valve(valve, what)).append(' ');
-            }
-        }
-        for (int entry = 0; entry < x.pair(11); entry++) {
-            for (int what = 0; what <= 4; what++) {
-                all.append(x.ledger(entry, what)).append(' ');
-            }
-        }
-        return all.append(x.digest()).toString();
+    static void changesNothing(String call, Supplier<ValveTwins> start, Consumer<ValveTwins> body) {
+        ValveTwins x = start.get();
+        body.accept(x);
+        count(traces(x).equals(traces(start.get())), call + " changed something");
     }
 
-    /** The digest as the document spells it, from the answers of the other calls. */
-    static long digestOf(ValveTwins x, int states, int length) {
-        long h = 43183;
-        h = 31 * h + states;
-        h = 31 * h + length;
-        for (int what = 0; what <= 11; what++) {
-            h = 31 * h + x.pair(what);
-        }
-        for (int valve = 0; valve <= 1; valve++) {
-            for (int what = 0; what <= 20; what++) {
-                h = 31 * h + x.valve(valve, what);
-            }
-            for (int what = 2; what <= 4; what++) {
-                h = 31 * h + x.ledgerSum(valve, what);
-            }
-        }
-        for (int entry = 0; entry < x.pair(11); entry++) {
-            for (int what = 0; what <= 4; what++) {
-                h = 31 * h + x.ledger(entry, what);
-            }
-        }
-        h = 31 * h + x.flatSignals();
-        return 31 * h + x.firstFall();
+    /** The call must save one state, the one from before it. The stack must have room at the start. */
+    static void undoable(String call, Supplier<ValveTwins> start, Consumer<ValveTwins> body) {
+        ValveTwins x = start.get();
+        int states = statesOf(start.get());
+        body.accept(x);
+        due(call + ", then undo()", undoOf(x), states);
+        count(traces(x).equals(traces(start.get())), call + ", then undo() is not as it was before");
     }
 
-    static void write(ValveTwins x, String text) {
-        x.clearCommands();
-        for (int i = 0; i < text.length(); i++) {
-            x.type(text.charAt(i));
-        }
+    /** The call must save no state, although it does something. */
+    static void notUndoable(String call, Supplier<ValveTwins> start, Consumer<ValveTwins> body) {
+        ValveTwins x = start.get();
+        body.accept(x);
+        due(call + ": saved states", statesOf(x), statesOf(start.get()));
     }
 
-    static int runText(ValveTwins x, String text) {
-        write(x, text);
-        return x.runCommands();
+    /**
+     * All that an object holds, in some 30 calls: what can be seen, each saved state, and what its text does.
+     * The digest stands for the values; the digest itself is tested against them.
+     */
+    static List<Number> traces(ValveTwins x) {
+        List<Number> all = new ArrayList<>();
+        look(x, all);
+        int left = undoOf(x);
+        while (left >= 0) {
+            all.add(left);
+            look(x, all);
+            left = undoOf(x);
+        }
+        all.add(x.runCommands());
+        look(x, all);
+        all.add(x.clearCommands());
+        return all;
+    }
+
+    private static void look(ValveTwins x, List<Number> all) {
+        all.add(x.digest());
+        all.add(x.meanFlow());
+        all.add(x.missedWithin(3));
+    }
+
+    /** How many states are saved; the object is used up by this. */
+    static int statesOf(ValveTwins x) {
+        int states = 0;
+        while (states < 100 && undoOf(x) >= 0) {
+            states++;
+        }
+        return states;
+    }
+
+    /** What undo() answers, or -1 where it throws. */
+    static int undoOf(ValveTwins x) {
+        try {
+            return x.undo();
+        } catch (IllegalStateException e) {
+            return -1;
+        }
     }
 
     static void pairIs(String where, ValveTwins x, int... wanted) {
@@ -115,7 +138,7 @@ final class Check {
     }
 
     static void undoLeaves(String where, ValveTwins x, int states) {
-        due(where + ": undo()", x.undo(), states);
+        due(where + ": undo()", undoOf(x), states);
     }
 
     static void finish() {
