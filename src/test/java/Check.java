@@ -10,11 +10,30 @@ final class Check {
     static final Class<IllegalStateException> BAD_STATE = IllegalStateException.class;
     static final int[] WRONG_VALVES = {-1, 2, Integer.MIN_VALUE, Integer.MAX_VALUE};
 
+    private static final int MOST_SECONDS = 300;
+
     private static String sentence = "";
     private static int passed;
     private static int failed;
 
+    static {
+        Thread watch = new Thread(Check::endInTime);
+        watch.setDaemon(true);
+        watch.start();
+    }
+
     private Check() {
+    }
+
+    /** A call that does not end must fail the test, and not hold it up. */
+    private static void endInTime() {
+        try {
+            Thread.sleep(1000L * MOST_SECONDS);
+        } catch (InterruptedException e) {
+            return;
+        }
+        System.out.println(sentence + "a call does not end");
+        Runtime.getRuntime().halt(1);
     }
 
     /** Names the promise, or another section of the document, and the sentence that the next checks are about. */
@@ -84,7 +103,7 @@ final class Check {
         List<Number> all = new ArrayList<>();
         look(x, all);
         int left = undoOf(x);
-        while (left >= 0) {
+        for (int undone = 0; undone < 10 && left >= 0; undone++) {
             all.add(left);
             look(x, all);
             left = undoOf(x);
@@ -116,6 +135,23 @@ final class Check {
             return x.undo();
         } catch (IllegalStateException e) {
             return -1;
+        }
+    }
+
+    /** The call must change numbers at these places alone; each of these it must change, as the test is set up. */
+    static void changesOnly(String call, Supplier<ValveTwins> start, Consumer<ValveTwins> body, int... places) {
+        int[] before = Numbers.of(start.get());
+        ValveTwins x = start.get();
+        body.accept(x);
+        int[] after = Numbers.of(x);
+        boolean[] allowed = new boolean[before.length];
+        for (int place : places) {
+            allowed[place] = true;
+        }
+        for (int place = 0; place < before.length; place++) {
+            boolean changed = after[place] != before[place];
+            count(changed == allowed[place], call + ": the number " + place + " went from " + before[place] + " to "
+                + after[place]);
         }
     }
 

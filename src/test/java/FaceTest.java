@@ -38,6 +38,7 @@ public final class FaceTest {
     };
 
     public static void main(String[] args) {
+        Check.sentence("The public face", "public final class ValveTwins {");
         methods();
         fields();
         constructors();

@@ -37,13 +37,17 @@ public final class SettingsTest {
         tuneUndoable();
         serviceEffect();
         serviceReturns();
+        serviceValve();
         serviceNoValve();
         putStemEffect();
         putStemEndsTheRunning();
+        putStemValve();
         putStemPosition();
         putStemReturns();
         putStemNoValve();
         putStemOutOfRange();
+        settingsChangeNothingElse();
+        serviceAndHandChangeNothingElse();
         runUndoable();
         runTicks();
         runReturns();
@@ -287,6 +291,8 @@ public final class SettingsTest {
             x.setSignal(signal);
             Check.due("setSignal(" + signal + ")", x.pair(0), signal);
         }
+        Check.refused("setSignal(-1)", Check.BAD_VALUE, States::busy, y -> y.setSignal(-1));
+        Check.refused("setSignal(1001)", Check.BAD_VALUE, States::busy, y -> y.setSignal(1001));
         Check.due("no time passes", x.pair(5), 0);
         Check.due("no stem moves", x.valve(0, 9), 0);
     }
@@ -433,6 +439,22 @@ public final class SettingsTest {
         Check.due("service of a new one", new ValveTwins().service(0), 0);
     }
 
+    private static void serviceValve() {
+        Check.sentence("Promise 6", "`valve`: 0 or 1");
+        ValveTwins x = new ValveTwins();
+        x.setSignal(1000);
+        x.run(1);
+        Check.due("service(0)", x.service(0), 10);
+        Check.due("wear of the valve 0", x.valve(0, 16), 0);
+        Check.due("wear of the valve 1", x.valve(1, 16), 10);
+        Check.due("service(1)", x.service(1), 10);
+        Check.due("wear of the valve 1", x.valve(1, 16), 0);
+        Check.due("services of the valve 0", x.valve(0, 20), 1);
+        Check.due("services of the valve 1", x.valve(1, 20), 1);
+        Check.refused("service(-1)", Check.NO_VALVE, States::busy, y -> y.service(-1));
+        Check.refused("service(2)", Check.NO_VALVE, States::busy, y -> y.service(2));
+    }
+
     private static void serviceNoValve() {
         Check.sentence("Promise 6", "Throws `IndexOutOfBoundsException` if there is no such valve");
         for (int valve : Check.WRONG_VALVES) {
@@ -472,15 +494,37 @@ public final class SettingsTest {
         Check.due("no reversal", x.valve(0, 13), 0);
     }
 
+    private static void putStemValve() {
+        Check.sentence("Promise 7", "`valve`: 0 or 1");
+        ValveTwins x = new ValveTwins();
+        x.setSignal(1000);
+        x.run(1);
+        x.putStem(0, 7);
+        Check.due("the valve 0", x.valve(0, 9), 7);
+        Check.due("the valve 1", x.valve(1, 9), 1000);
+        Check.due("the valve 0 is at rest", x.valve(0, 11), 0);
+        Check.due("the valve 1 is running", x.valve(1, 11), 1);
+        Check.due("the valve 1 has a last way", x.valve(1, 10), 1);
+        x.putStem(1, 8);
+        Check.due("the valve 0", x.valve(0, 9), 7);
+        Check.due("the valve 1", x.valve(1, 9), 8);
+        Check.due("the valve 1 is at rest", x.valve(1, 11), 0);
+        Check.refused("putStem(-1, 7)", Check.NO_VALVE, States::busy, y -> y.putStem(-1, 7));
+        Check.refused("putStem(2, 7)", Check.NO_VALVE, States::busy, y -> y.putStem(2, 7));
+    }
+
     private static void putStemPosition() {
         Check.sentence("Promise 7", "`position`: 0 to 1000");
         for (int valve = 0; valve <= 1; valve++) {
             ValveTwins x = new ValveTwins();
+            int v = valve;
             for (int position : new int[] {1, 0, 999, 1000}) {
                 x.putStem(valve, position);
                 Check.due("position of the valve " + valve, x.valve(valve, 9), position);
                 Check.due("position of the other", x.valve(1 - valve, 9), 0);
             }
+            Check.refused("putStem(.., -1)", Check.BAD_VALUE, States::busy, y -> y.putStem(v, -1));
+            Check.refused("putStem(.., 1001)", Check.BAD_VALUE, States::busy, y -> y.putStem(v, 1001));
         }
     }
 
@@ -510,6 +554,49 @@ public final class SettingsTest {
         }
     }
 
+    // ---- promises 2 to 7
+
+    private static void settingsChangeNothingElse() {
+        for (int valve = 0; valve <= 1; valve++) {
+            int v = valve;
+            Check.sentence("Promise 2", "Sets the range of a valve, and whether it is falling.");
+            Check.changesOnly("setRange(" + v + ", ..)", States::busy, x -> x.setRange(v, 400, 450, v == 1),
+                Numbers.valve(v, 5), Numbers.valve(v, 6), Numbers.valve(v, 7), Numbers.valve(v, 8), Numbers.pair(7));
+            Check.sentence("Promise 3", "Sets a value of a valve.");
+            Check.changesOnly("speed " + v, States::busy, x -> x.setValve(v, 0, 55), Numbers.valve(v, 0));
+            // The valve 0 runs up and the valve 1 down: only the threshold against its way has a stick.
+            Check.changesOnly("stick " + v, States::busy, x -> x.setValve(v, 1, 55), Numbers.valve(v, 1),
+                Numbers.valve(v, v == 0 ? 18 : 17));
+            Check.changesOnly("extra stick " + v, States::busy, x -> x.setValve(v, 2, 55), Numbers.valve(v, 2),
+                Numbers.valve(v, v == 0 ? 18 : 17));
+            Check.changesOnly("size " + v, States::busy, x -> x.setValve(v, 3, 900), Numbers.valve(v, 3),
+                Numbers.valve(v, 19), Numbers.pair(6), Numbers.pair(7));
+            Check.changesOnly("characteristic " + v, States::busy, x -> x.setValve(v, 4, 0), Numbers.valve(v, 4),
+                Numbers.valve(v, 19), Numbers.pair(6), Numbers.pair(7));
+        }
+        Check.sentence("Promise 4", "Sets the signal.");
+        Check.changesOnly("setSignal(500)", States::busy, x -> x.setSignal(500), Numbers.pair(0), Numbers.pair(7),
+            Numbers.valve(0, 8), Numbers.valve(1, 8));
+        Check.sentence("Promise 5", "Sets a setting of the controller.");
+        for (int what = 0; what <= 3; what++) {
+            int w = what;
+            Check.changesOnly("tune(" + w + ", ..)", States::busy, x -> x.tune(w, w == 0 ? 0 : 77), Numbers.pair(1 + w));
+        }
+    }
+
+    private static void serviceAndHandChangeNothingElse() {
+        for (int valve = 0; valve <= 1; valve++) {
+            int v = valve;
+            Check.sentence("Promise 6", "its travel and reversals since the latest service become 0; its stem stays.");
+            Check.changesOnly("service(" + v + ")", States::busy, x -> x.service(v), Numbers.valve(v, 12),
+                Numbers.valve(v, 13), Numbers.valve(v, 16), Numbers.valve(v, v == 0 ? 18 : 17), Numbers.valve(v, 20));
+            Check.sentence("Promise 7", "Puts a stem to a position by hand, without travel");
+            Check.changesOnly("putStem(" + v + ", 999)", States::busy, x -> x.putStem(v, 999), Numbers.valve(v, 9),
+                Numbers.valve(v, 10), Numbers.valve(v, 11), Numbers.valve(v, 17), Numbers.valve(v, 18),
+                Numbers.valve(v, 19), Numbers.pair(6));
+        }
+    }
+
     // ---- promise 8
 
     private static void runUndoable() {
@@ -534,6 +621,8 @@ public final class SettingsTest {
             time += ticks;
             Check.due("run(" + ticks + "): time", x.pair(5), time);
         }
+        Check.refused("run(0)", Check.BAD_VALUE, States::busy, y -> y.run(0));
+        Check.refused("run(501)", Check.BAD_VALUE, States::busy, y -> y.run(501));
     }
 
     private static void runReturns() {

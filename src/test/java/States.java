@@ -1,4 +1,4 @@
-/** Objects to begin a test with; none has been used for more than some 200 of the 512 calls that it may be used for. */
+/** Objects to begin a test with; none has been used for more than some 300 of the 512 calls that it may be used for. */
 final class States {
     static final int MOST_TIME = 200000;
     static final String FREES = "free;".repeat(30);
@@ -36,36 +36,17 @@ final class States {
         return x;
     }
 
-    /** Nothing is as at first, the ledger is full, three states are saved, and there is a text that changes much. */
+    /**
+     * Little is as at first, the ledger is full, three states are saved, and there is a text that changes much.
+     * No undo() makes it: one that restored wrongly would make two such objects alike.
+     */
     static ValveTwins busy() {
         ValveTwins x = new ValveTwins();
-        x.setRange(0, 100, 700, true);
-        x.setRange(1, 300, 900, false);
-        int[][] settings = {{90, 2, 3, 400, 2}, {70, 4, 5, 700, 1}};
-        for (int valve = 0; valve <= 1; valve++) {
-            for (int what = 0; what <= 4; what++) {
-                x.setValve(valve, what, settings[valve][what]);
-            }
-        }
-        for (int swing = 0; swing < 10; swing++) {
-            x.setSignal(swing % 2 == 0 ? 800 : 90);
-            x.run(60);
-        }
-        x.service(0);
-        x.service(1);
-        x.service(1);
-        x.setSignal(800);
-        x.run(30);
-        x.setSignal(350);
-        x.run(8);
-        x.tune(1, 900);
-        x.tune(2, 650);
-        x.tune(3, 37);
+        x.tune(1, 2000);
+        x.tune(3, 437);
+        runText(x, "fall 0 100 700;rise 1 300 900;set 0 0 90;set 0 1 2;set 0 2 3;set 0 3 400;set 0 4 2;set 1 3 700;"
+            + "set 1 4 1;hold 350;run 500;service 0;service 1;run 99;");
         write(x, " fall 1 5 600;rise 0 7 650 ;set 0 3 77; hold 9; run 30 ;service 1;");
-        x.tune(0, 1);
-        x.run(4);
-        x.putStem(1, 3);
-        x.undo();
         return x;
     }
 
@@ -79,15 +60,12 @@ final class States {
     static ValveTwins atTime(int time) {
         ValveTwins x = new ValveTwins();
         write(x, "run 500;".repeat(18));
-        while (x.pair(5) + 9000 <= time) {
+        for (int left = time / 9000; left > 0; left--) {
             x.runCommands();
         }
         x.clearCommands();
-        while (x.pair(5) + 500 <= time) {
-            x.run(500);
-        }
-        if (x.pair(5) < time) {
-            x.run(time - x.pair(5));
+        for (int left = time % 9000; left > 0; left -= 500) {
+            x.run(Math.min(left, 500));
         }
         return x;
     }

@@ -214,6 +214,12 @@ public final class TextTest {
         fault("run 1; !", 7);
         fault("run 1!!!;?", 5);
         fault("signal 5 5; service ", 9);
+        // What stands behind a fault is not read on, though it is sound but for a later fault.
+        fault("run free;x", 4);
+        fault("free run 1;x", 5);
+        fault("run 1 run 1;x", 6);
+        fault("set 0 free;free", 6);
+        fault("runs 1;free;x", 0);
         fault("run 1\177;", 5);
         fault("free`;", 4);
         fault("free{;", 4);

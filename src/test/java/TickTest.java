@@ -19,6 +19,7 @@ public final class TickTest {
         ledgerDay();
         ledgerAmounts();
         ledgerMade();
+        ledgerMadeWithZeros();
         ledgerFull();
         ledgerFullAmounts();
         ledgerBehindUndo();
@@ -357,6 +358,36 @@ public final class TickTest {
         Check.due("entries of two days", x.pair(11), 4);
         Check.entryIs("the third", x, 2, 0, 1, 0, 0, 0);
         Check.entryIs("the fourth", x, 3, 1, 1, 0, 0, 0);
+    }
+
+    /** The entries that are made in the full ledger, behind entries with travel, reversals and leaks. */
+    private static void ledgerMadeWithZeros() {
+        Check.sentence("Terms", "it is made, first with 0, behind the others.");
+        for (int busy = 0; busy <= 1; busy++) {
+            ValveTwins x = new ValveTwins();
+            x.setRange(busy, 0, 500, false);
+            x.setRange(1 - busy, 999, 1000, false);
+            x.run(500);
+            x.run(95);
+            for (int swing = 0; swing < 4; swing++) {
+                x.setSignal(swing % 2 == 0 ? 500 : 0);
+                x.run(1);
+            }
+            x.run(1);
+            // The wear is 23 behind the second move (a leak of 1), 49 behind the fourth (2), and so it stays.
+            Check.entryIs("the sixth day", x, 10 + busy, busy, 5, 4000, 3, 1 + 2 + 2);
+            Check.entryIs("the sixth day", x, 11 - busy, 1 - busy, 5, 0, 0, 0);
+            x.service(busy);
+            x.run(1);
+            Check.entryIs("behind the sixth day", x, 8 + busy, busy, 5, 4000, 3, 5);
+            Check.entryIs("the seventh day", x, 10, 0, 6, 0, 0, 0);
+            Check.entryIs("the seventh day", x, 11, 1, 6, 0, 0, 0);
+            x.undo();
+            x.undo();
+            x.run(1);
+            Check.entryIs("the seventh day, without the service", x, 10 + busy, busy, 6, 0, 0, 2);
+            Check.entryIs("the seventh day, of the other", x, 11 - busy, 1 - busy, 6, 0, 0, 0);
+        }
     }
 
     private static void ledgerFull() {

@@ -260,42 +260,20 @@ public final class UndoTest {
     /** Number by number, not by the digest: most are others behind the text, and all are back behind undo(). */
     private static void restoresEachValue() {
         Check.sentence("Terms", "saves the whole state but the command text");
-        int[] before = numbers(before());
+        int[] before = Numbers.of(before());
         ValveTwins x = before();
         x.runCommands();
-        int[] between = numbers(x);
+        int[] between = Numbers.of(x);
         ValveTwins y = before();
         y.runCommands();
         y.undo();
-        int[] behind = numbers(y);
+        int[] behind = Numbers.of(y);
         int changed = 0;
         for (int i = 0; i < before.length; i++) {
             Check.due("number " + i, behind[i], before[i]);
             changed += between[i] != before[i] ? 1 : 0;
         }
         Check.count(changed >= 70, "the text changed only " + changed + " numbers of " + before.length);
-    }
-
-    private static int[] numbers(ValveTwins x) {
-        int[] all = new int[12 + 2 * 21 + 2 * 3 + 12 * 5];
-        int count = 0;
-        for (int what = 0; what <= 11; what++) {
-            all[count++] = x.pair(what);
-        }
-        for (int valve = 0; valve <= 1; valve++) {
-            for (int what = 0; what <= 20; what++) {
-                all[count++] = x.valve(valve, what);
-            }
-            for (int what = 2; what <= 4; what++) {
-                all[count++] = x.ledgerSum(valve, what);
-            }
-        }
-        for (int entry = 0; entry < 12; entry++) {
-            for (int what = 0; what <= 4; what++) {
-                all[count++] = x.ledger(entry, what);
-            }
-        }
-        return all;
     }
 
     // ---- exceptions

@@ -18,6 +18,7 @@ public final class ValuesTest {
         ledgerSumOfKept();
         ledgerSumWhat();
         ledgerSumOfLeaks();
+        ledgerSumValve();
         ledgerSumNoValve();
         ledgerSumOutOfRange();
         meanFlowAtTimeZero();
@@ -111,8 +112,10 @@ public final class ValuesTest {
         Check.pairIs("moved", x, 50, 1, -3, 44, 5, 3, 400, 400, 616, 200, 0, 2);
         ValveTwins busy = States.busy();
         busy.setSignal(250);
-        // Of the sizes 400 and 700: 400 * 544 / 1000 at 337, 700 * 108 / 1000 at 330 are the flows then.
-        Check.due("flow", busy.pair(6), 224 + 75);
+        // Of the sizes 400 and 700, with the openings 172 of 90 and 51 of 228.
+        Check.due("position", busy.valve(0, 9), 90);
+        Check.due("position", busy.valve(1, 9), 228);
+        Check.due("flow", busy.pair(6), 68 + 35);
         // The demand of the valve 0 falls to 750, that of the valve 1 is 0.
         Check.due("ideal flow", busy.pair(7), 375);
         Check.due("entries", busy.pair(11), 12);
@@ -143,21 +146,20 @@ public final class ValuesTest {
 
     private static void ledgerWhat() {
         Check.sentence("Promise 11", "`what`: 0 valve, 1 day, 2 travel, 3 reversals, 4 leaked flow");
-        ValveTwins x = States.busy();
-        int[][] entries = {{0, 1}, {1, 1}, {0, 2}, {1, 2}, {0, 3}, {1, 3}, {0, 4}, {1, 4}, {0, 5}, {1, 5}, {0, 6}, {1, 6}};
-        int[][] sums = new int[2][5];
-        for (int entry = 0; entry < 12; entry++) {
-            Check.entryIs("busy", x, entry, entries[entry]);
-            for (int what = 2; what <= 4; what++) {
-                sums[entries[entry][0]][what] += x.ledger(entry, what);
-            }
+        ValveTwins x = new ValveTwins();
+        x.setRange(1, 0, 500, false);
+        x.run(100);
+        for (int swing = 0; swing < 4; swing++) {
+            x.setSignal(swing % 2 == 0 ? 500 : 0);
+            x.run(1);
         }
-        for (int valve = 0; valve <= 1; valve++) {
-            for (int what = 2; what <= 4; what++) {
-                Check.due("ledgerSum(" + valve + ", " + what + ")", x.ledgerSum(valve, what), sums[valve][what]);
-                Check.count(sums[valve][what] > 0, "there is nothing to add up");
-            }
-        }
+        x.setRange(0, 500, 1000, true);
+        x.run(1);
+        // Both swing and leak alike (1 behind the second move, 2 behind the fourth), then the valve 0 goes up again.
+        Check.entryIs("the day 0", x, 0, 0, 0, 0, 0, 0);
+        Check.entryIs("the day 0", x, 1, 1, 0, 0, 0, 0);
+        Check.entryIs("the day 1", x, 2, 0, 1, 5000, 4, 3);
+        Check.entryIs("the day 1", x, 3, 1, 1, 4000, 3, 5);
     }
 
     private static void ledgerNone() {
@@ -249,6 +251,21 @@ public final class ValuesTest {
         Check.due("ledgerSum(1, 4)", x.ledgerSum(1, 4), 203);
         // The valve 0 turns against its extra stick, which changes nothing here: it leaks like the other one.
         Check.due("ledgerSum(0, 4)", x.ledgerSum(0, 4), 203);
+    }
+
+    private static void ledgerSumValve() {
+        Check.sentence("Promise 12", "`valve`: 0 or 1");
+        ValveTwins x = new ValveTwins();
+        x.setSignal(300);
+        x.run(1);
+        Check.due("ledgerSum(0, 2)", x.ledgerSum(0, 2), 600);
+        Check.due("ledgerSum(1, 2)", x.ledgerSum(1, 2), 0);
+        x.setSignal(600);
+        x.run(1);
+        Check.due("ledgerSum(0, 2)", x.ledgerSum(0, 2), 1000);
+        Check.due("ledgerSum(1, 2)", x.ledgerSum(1, 2), 200);
+        Check.refused("ledgerSum(-1, 2)", Check.NO_VALVE, States::busy, y -> y.ledgerSum(-1, 2));
+        Check.refused("ledgerSum(2, 2)", Check.NO_VALVE, States::busy, y -> y.ledgerSum(2, 2));
     }
 
     private static void ledgerSumNoValve() {

@@ -17,6 +17,7 @@ public final class WhatIfTest {
         firstFallEnds();
         firstFallNone();
         moveForSign();
+        moveForValve();
         moveForSignal();
         moveForZero();
         moveForSpeed();
@@ -29,6 +30,8 @@ public final class WhatIfTest {
         restAfterOutOfRange();
         wornAfterNow();
         wornAfterTicks();
+        wornAfterValve();
+        wornAfterMost();
         wornAfterNone();
         wornAfterByReversals();
         wornAfterNoValve();
@@ -259,6 +262,17 @@ public final class WhatIfTest {
         Check.due("the valve 1, not", x.moveFor(1, 999), 0);
     }
 
+    private static void moveForValve() {
+        Check.sentence("Promise 18", "`valve`: 0 or 1");
+        ValveTwins x = new ValveTwins();
+        x.putStem(0, 100);
+        x.putStem(1, 200);
+        Check.due("moveFor(0, 750)", x.moveFor(0, 750), 900);
+        Check.due("moveFor(1, 750)", x.moveFor(1, 750), 300);
+        Check.refused("moveFor(-1, 750)", Check.NO_VALVE, States::busy, y -> y.moveFor(-1, 750));
+        Check.refused("moveFor(2, 750)", Check.NO_VALVE, States::busy, y -> y.moveFor(2, 750));
+    }
+
     private static void moveForSignal() {
         Check.sentence("Promise 18", "`signal`: 0 to 1000");
         ValveTwins x = resting();
@@ -407,6 +421,31 @@ public final class WhatIfTest {
         Check.due("9 in 450", y.wornAfter(0, 9, 500), 450);
         Check.due("9 in 450, of 450", y.wornAfter(0, 9, 450), 450);
         Check.due("9 in 450, of 449", y.wornAfter(0, 9, 449), NONE);
+    }
+
+    private static void wornAfterValve() {
+        Check.sentence("Promise 20", "`valve`: 0 or 1");
+        ValveTwins x = new ValveTwins();
+        x.setValve(0, 0, 100);
+        x.setValve(1, 0, 200);
+        x.setSignal(1000);
+        Check.due("of the valve 0", x.wornAfter(0, 10, 500), 10);
+        Check.due("of the valve 1", x.wornAfter(1, 10, 500), 5);
+        Check.refused("wornAfter(-1, 0, 0)", Check.NO_VALVE, States::busy, y -> y.wornAfter(-1, 0, 0));
+        Check.refused("wornAfter(2, 0, 0)", Check.NO_VALVE, States::busy, y -> y.wornAfter(2, 0, 0));
+    }
+
+    private static void wornAfterMost() {
+        Check.sentence("Promise 20", "`most`: 0 to 500");
+        ValveTwins x = slow(2);
+        Check.due("2 in 100, of 0", x.wornAfter(0, 2, 0), NONE);
+        Check.due("2 in 100, of 1", x.wornAfter(0, 2, 1), NONE);
+        Check.due("2 in 100, of 99", x.wornAfter(0, 2, 99), NONE);
+        Check.due("2 in 100, of 100", x.wornAfter(0, 2, 100), 100);
+        Check.due("2 in 100, of 499", x.wornAfter(0, 2, 499), 100);
+        Check.due("2 in 100, of 500", x.wornAfter(0, 2, 500), 100);
+        Check.refused("of -1", Check.BAD_VALUE, States::busy, y -> y.wornAfter(0, 2, -1));
+        Check.refused("of 501", Check.BAD_VALUE, States::busy, y -> y.wornAfter(0, 2, 501));
     }
 
     private static void wornAfterNone() {
